@@ -181,6 +181,8 @@ public final class LikenessTest {
         Checks.yes("another beginning of neither", x.lost(8));
         Checks.call(x, 0, "zq", 1);
         Checks.no("second variants begin alike", x.lost(Integer.MIN_VALUE));
+        Checks.call(x, 1, "y", 2);
+        Checks.no("earlier variants still do", x.lost(Integer.MIN_VALUE));
     }
 
     private static void lostOfNamesWithoutVariants() {

@@ -106,6 +106,11 @@ public final class MergesTest {
         NameMerges y = Checks.withNames(2);
         y.merge(0, 1, 100000);
         Checks.same("on the last day alone", y.merge(0, 1, 5), 2);
+        NameMerges z = Checks.withNames(2);
+        z.merge(0, 1, 6);
+        z.part(0, 1, 7);
+        Checks.same("on the next day alone", z.merge(0, 1, 5), 2);
+        Checks.same("on the day before alone", z.merge(0, 1, 7), 0);
     }
 
     private static void betweenTwoMergesAndPartings() {
