@@ -5,10 +5,18 @@ final class Checks {
         void run();
     }
 
+    static final String NOTHING_THROWN = "nothing thrown";
+
     private static int done = 0;
     private static int wrong = 0;
+    /** The document's sentence that is tested now, printed with what is wrong. */
+    private static String sentence = "";
 
     private Checks() {
+    }
+
+    static void sentence(String where, String words) {
+        sentence = where + " \"" + words + "\": ";
     }
 
     static void same(String what, long got, long due) {
@@ -27,13 +35,17 @@ final class Checks {
         done++;
         if (!got.equals(due)) {
             wrong++;
-            System.out.println(what + " answered " + got + ", due is " + due);
+            System.out.println(sentence + what + " answered " + got + ", due is " + due);
         }
     }
 
     /** The class must be the very one: the machine's own exceptions are classes below it. */
     static void refuses(Class<? extends RuntimeException> due, String what, Call call) {
         text(what, thrownBy(call), due.getSimpleName());
+    }
+
+    static void takes(String what, Call call) {
+        text(what, thrownBy(call), NOTHING_THROWN);
     }
 
     static void noPlace(String what, Call call) {
@@ -48,13 +60,20 @@ final class Checks {
         refuses(IllegalArgumentException.class, what, call);
     }
 
-    private static String thrownBy(Call call) {
+    static String thrownBy(Call call) {
         try {
             call.run();
-            return "nothing thrown";
+            return NOTHING_THROWN;
         } catch (RuntimeException e) {
-            return e.getClass().getSimpleName();
+            return nameOf(e);
         }
+    }
+
+    /** What a list or the machine throws is told apart: only a throw of the class itself is right. */
+    static String nameOf(RuntimeException e) {
+        StackTraceElement[] trace = e.getStackTrace();
+        boolean own = trace.length > 0 && trace[0].getClassName().startsWith("NameMerges");
+        return (own ? "" : "not by the class's own throw: ") + e.getClass().getSimpleName();
     }
 
     static NameMerges withNames(int count) {
